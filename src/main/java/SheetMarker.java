@@ -954,11 +954,13 @@ public final class SheetMarker {
 
         /** The figure; 0 with an error. */
         long figureAt(int w, int c) {
-            return isSlot(w, c) ? figures[w * CELLS + c] : 0;
+            int slot = w * CELLS + c;
+            return slot >= 0 && slot < figures.length ? figures[slot] : 0;
         }
 
         int errorAt(int w, int c) {
-            return isSlot(w, c) ? errors[w * CELLS + c] : NO_ERROR;
+            int slot = w * CELLS + c;
+            return slot >= 0 && slot < errors.length ? errors[slot] : NO_ERROR;
         }
 
         boolean isAlike(Figures other, int w, int c) {
@@ -1051,14 +1053,11 @@ public final class SheetMarker {
         }
 
         private void put(int w, int c, long figure, int error) {
-            if (isSlot(w, c)) {
-                figures[w * CELLS + c] = figure;
-                errors[w * CELLS + c] = error;
+            int slot = w * CELLS + c;
+            if (slot >= 0 && slot < figures.length && slot < errors.length) {
+                figures[slot] = figure;
+                errors[slot] = error;
             }
-        }
-
-        private static boolean isSlot(int w, int c) {
-            return w >= 0 && w < WORLDS && c >= 0 && c < CELLS;
         }
     }
 

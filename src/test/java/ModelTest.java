@@ -53,7 +53,10 @@ public final class ModelTest {
         final Random random;
         final SheetMarker marker = new SheetMarker();
         final Model model = new Model();
+        // The calls keep to a corner of the sheets, so that formulas meet; at times it is the last one.
         final int span;
+        final int top;
+        final int left;
         final boolean lenient;
         int calls = 0;
 
@@ -61,6 +64,8 @@ public final class ModelTest {
             this.seed = seed;
             random = new Random(seed);
             span = 2 + random.nextInt(4);
+            top = random.nextBoolean() ? 0 : 8 - span;
+            left = random.nextBoolean() ? 0 : 8 - span;
             lenient = random.nextInt(3) != 0;
         }
 
@@ -337,7 +342,7 @@ public final class ModelTest {
             if (random.nextInt(15) == 0) {
                 return random.nextInt(68) - 2;
             }
-            return 8 * random.nextInt(span) + random.nextInt(span);
+            return 8 * (top + random.nextInt(span)) + left + random.nextInt(span);
         }
 
         int wanted() {
@@ -383,7 +388,7 @@ public final class ModelTest {
         }
 
         String name() {
-            return "" + (char) ('A' + random.nextInt(span)) + (char) ('1' + random.nextInt(span));
+            return "" + (char) ('A' + left + random.nextInt(span)) + (char) ('1' + top + random.nextInt(span));
         }
     }
 

@@ -29,6 +29,7 @@ public final class PromiseTest {
         points();
         slipSigns();
         slipNumbersAndCells();
+        slipAtTheEdge();
         fault();
         copied();
         look();
@@ -823,6 +824,45 @@ public final class PromiseTest {
         writes(x, 2, "C1", "=B1*C1");
         due("a slip among right figures", x.slip(2, at("C1"), 0), 4);
         due("a slip among right figures", x.slip(2, at("C1"), 1), at("B1"));
+    }
+
+    /** What a pupil makes of one cell that the task names instead of another; the numbers tell all cells apart. */
+    private static void misnamed(String task, String pupil, int kind) {
+        SheetMarker x = new SheetMarker();
+        x.world();
+        x.wants(at("D4"), 1);
+        for (int s = 0; s < 2; s++) {
+            for (int c = 0; c < 64; c++) {
+                x.number(s, c, 1000 + 13 * c);
+            }
+        }
+        writes(x, 0, "D4", task);
+        writes(x, 1, "D4", pupil);
+        due(pupil + " for " + task, x.kind(1, at("D4")), kind);
+        due("place", x.slip(1, at("D4"), 0), kind == 4 ? 1 : -1);
+        due("what is made", x.slip(1, at("D4"), 1), kind == 4 ? at(task.substring(1)) : -1);
+    }
+
+    private static void slipAtTheEdge() {
+        misnamed("=A8", "=A7", 4);
+        misnamed("=A7", "=A8", 4);
+        misnamed("=A1", "=A2", 4);
+        misnamed("=A2", "=A1", 4);
+        misnamed("=H3", "=G3", 4);
+        misnamed("=G3", "=H3", 4);
+        misnamed("=A3", "=B3", 4);
+        misnamed("=B3", "=A3", 4);
+        misnamed("=H8", "=G8", 4);
+        misnamed("=H8", "=H7", 4);
+        misnamed("=A2", "=H1", 5);
+        misnamed("=H1", "=A2", 5);
+        misnamed("=A1", "=A8", 5);
+        misnamed("=A8", "=A1", 5);
+        misnamed("=0", "=A8", 5);
+        misnamed("=0", "=H8", 5);
+        misnamed("=0", "=A1", 5);
+        misnamed("=0", "=H1", 5);
+        misnamed("=B2", "=A1", 5);
     }
 
     private static void fault() {
