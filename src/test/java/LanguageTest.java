@@ -10,6 +10,8 @@ import java.util.HashSet;
 import java.util.List;
 import java.util.Set;
 import java.util.TreeSet;
+import java.util.regex.Matcher;
+import java.util.regex.Pattern;
 
 /** What can be seen of the language's rules from outside: the face, the words of the source, the sizes. */
 public final class LanguageTest {
@@ -23,6 +25,8 @@ public final class LanguageTest {
     private static final List<String> NOT_SPOKEN = List.of("throw", "throws", "try", "catch", "finally", "assert",
             "synchronized", "volatile", "native", "import", "package", "instanceof", "String", "System", "Object",
             "->", "::", "protected", "float", "double", "NaN", "Exact(", "hashCode", "toString", "while (true)");
+    private static final List<String> LIBRARY = List.of("Math.abs", "Math.floorDiv", "Math.max", "Math.min",
+            "Long.bitCount", "SIGNS.length");
     private static int wrong = 0;
 
     public static void main(String[] args) throws IOException {
@@ -98,6 +102,10 @@ public final class LanguageTest {
             boolean plain = Character.isLetter(word.charAt(0)) && Character.isLetter(word.charAt(word.length() - 1));
             boolean there = plain ? code.matches("(?s).*\\b" + word + "\\b.*") : code.contains(word);
             must(!there, "not to be spoken: " + word);
+        }
+        Matcher library = Pattern.compile("\\b[A-Z]\\w*\\.\\w+").matcher(code);
+        while (library.find()) {
+            must(LIBRARY.contains(library.group()), "not of the library's part: " + library.group());
         }
         int length = 0;
         for (String line : source.split("\n")) {

@@ -1,10 +1,5 @@
 /** Promise by promise: ordinary inputs, the edges that the document names, and wrong inputs. */
-public final class PromiseTest {
-    private static final int FAR = Integer.MAX_VALUE;
-    private static final int DEEP = Integer.MIN_VALUE;
-    private static int wrong = 0;
-    private static int asked = 0;
-
+public final class PromiseTest extends Answers {
     public static void main(String[] args) {
         aNewObject();
         feed();
@@ -35,49 +30,7 @@ public final class PromiseTest {
         look();
         lookComing();
         count();
-        System.out.println(wrong == 0 ? asked + " answers are as due" : wrong + " answers are not as due");
-        if (wrong != 0) {
-            System.exit(1);
-        }
-    }
-
-    private static void due(String what, long got, long want) {
-        asked++;
-        if (got != want) {
-            wrong++;
-            System.out.println(what + ": answered " + got + ", due is " + want);
-        }
-    }
-
-    private static void due(String what, boolean got, boolean want) {
-        due(what, got ? 1 : 0, want ? 1 : 0);
-    }
-
-    private static int at(String name) {
-        return 8 * (name.charAt(1) - '1') + name.charAt(0) - 'A';
-    }
-
-    private static int word(String text, int from) {
-        int word = 0;
-        for (int i = from; i < from + 4; i++) {
-            word = word << 8 | (i < text.length() ? text.charAt(i) : ' ');
-        }
-        return word;
-    }
-
-    private static void feedText(SheetMarker x, String text) {
-        for (int i = 0; i == 0 || i < text.length(); i += 20) {
-            x.feed(word(text, i), word(text, i + 4), word(text, i + 8), word(text, i + 12), word(text, i + 16));
-        }
-    }
-
-    private static int write(SheetMarker x, int s, String name, String text) {
-        feedText(x, text);
-        return x.formula(s, at(name), text.length());
-    }
-
-    private static void writes(SheetMarker x, int s, String name, String text) {
-        due("formula " + text + " in " + name, write(x, s, name, text), 0);
+        end();
     }
 
     private static void faulty(String text, int want) {
@@ -104,6 +57,7 @@ public final class PromiseTest {
     }
 
     private static void aNewObject() {
+        sentence("Promise 1: a new object");
         SheetMarker x = new SheetMarker();
         for (int what = 0; what < 5; what++) {
             due("new count " + what, x.count(what), 0);
@@ -122,6 +76,7 @@ public final class PromiseTest {
     }
 
     private static void feed() {
+        sentence("Promise 2: feed");
         SheetMarker x = new SheetMarker();
         due("feed", x.feed(word("=123", 0), word("+A1*", 0), word("2-B7", 0), word("/3+(", 0), word("H8) ", 0)), 20);
         due("formula of the fed", x.formula(0, 0, 19), 0);
@@ -142,6 +97,7 @@ public final class PromiseTest {
     }
 
     private static void number() {
+        sentence("Promise 3: number");
         SheetMarker x = new SheetMarker();
         due("number", x.number(0, 0, 5), true);
         due("its look", x.look(0, 0, 1), 5);
@@ -168,6 +124,7 @@ public final class PromiseTest {
     }
 
     private static void formulaReads() {
+        sentence("Promise 4: formula, what it reads");
         SheetMarker x = new SheetMarker();
         String forty = "=1+2*3-4/5+A1*B2-C3/D4+E5-F6+G7*H8-10+11";
         due("forty bytes", forty.length(), 40);
@@ -196,6 +153,7 @@ public final class PromiseTest {
     }
 
     private static void formulaFaults() {
+        sentence("Promise 4: formula, faults");
         faulty("", 100);
         faulty("1", 100);
         faulty("=", 101);
@@ -265,6 +223,7 @@ public final class PromiseTest {
     }
 
     private static void formulaRefuses() {
+        sentence("Promise 4: formula, refused");
         SheetMarker x = new SheetMarker();
         feedText(x, "=1+2");
         for (int bad : new int[] {-1, 6, FAR, DEEP}) {
@@ -288,6 +247,7 @@ public final class PromiseTest {
     }
 
     private static void clear() {
+        sentence("Promise 5: clear");
         SheetMarker x = new SheetMarker();
         due("clear an empty cell", x.clear(1, 1), false);
         x.number(1, 1, 0);
@@ -309,6 +269,7 @@ public final class PromiseTest {
     }
 
     private static void input() {
+        sentence("Promise 6: input");
         SheetMarker x = new SheetMarker();
         due("input", x.input(0), true);
         due("again", x.input(0), false);
@@ -332,6 +293,7 @@ public final class PromiseTest {
     }
 
     private static void wants() {
+        sentence("Promise 7: wants");
         SheetMarker x = new SheetMarker();
         due("least", x.wants(0, 1), true);
         due("most", x.wants(1, 100), true);
@@ -356,6 +318,7 @@ public final class PromiseTest {
     }
 
     private static void world() {
+        sentence("Promise 8: world");
         SheetMarker x = new SheetMarker();
         for (int w = 0; w < 6; w++) {
             due("no value yet", x.value(0, 0, w), -1);
@@ -367,6 +330,7 @@ public final class PromiseTest {
     }
 
     private static void give() {
+        sentence("Promise 9: give");
         SheetMarker x = new SheetMarker();
         x.input(63);
         due("no world yet", x.give(0, 63, 1), false);
@@ -392,6 +356,7 @@ public final class PromiseTest {
     }
 
     private static void valueReckons() {
+        sentence("Promise 10: value, what is reckoned");
         reckons("=1+2*3-4", 3, 0);
         reckons("=10-3-2", 5, 0);
         reckons("=100/7/2", 7, 0);
@@ -429,6 +394,7 @@ public final class PromiseTest {
     }
 
     private static void valueInWorlds() {
+        sentence("Promise 10: value, in worlds");
         SheetMarker x = new SheetMarker();
         x.input(at("A1"));
         x.world();
@@ -457,9 +423,7 @@ public final class PromiseTest {
         y.world();
         y.number(0, 0, 1);
         for (int c = 1; c < 64; c++) {
-            String before = "" + (char) ('A' + (c - 1) % 8) + (char) ('1' + (c - 1) / 8);
-            String here = "" + (char) ('A' + c % 8) + (char) ('1' + c / 8);
-            writes(y, 0, here, "=((((((" + before + "+1))))))");
+            writes(y, 0, name(c), "=((((((" + name(c - 1) + "+1))))))");
         }
         due("a chain of 64 cells", y.value(0, 63, 0), 64);
         writes(y, 0, "A1", "=H8");
@@ -468,6 +432,7 @@ public final class PromiseTest {
     }
 
     private static void error() {
+        sentence("Promise 11: error");
         reckons("=1/0", 0, 2);
         reckons("=0/0", 0, 2);
         reckons("=5/(A1-7)", 0, 2);
@@ -507,6 +472,7 @@ public final class PromiseTest {
     }
 
     private static void errorOrder() {
+        sentence("Promise 11: error, which is met first");
         reckons("=C1+C2", 0, 2);
         reckons("=C2+C1", 0, 3);
         reckons("=1/0+C2", 0, 2);
@@ -540,6 +506,7 @@ public final class PromiseTest {
     }
 
     private static void circles() {
+        sentence("Promise 11: error, circles");
         SheetMarker x = new SheetMarker();
         x.world();
         writes(x, 0, "A1", "=A1");
@@ -579,6 +546,7 @@ public final class PromiseTest {
     }
 
     private static void right() {
+        sentence("Promise 12: right");
         SheetMarker x = lesson();
         writes(x, 1, "B1", "=A1*3");
         writes(x, 1, "C1", "=E1*B1");
@@ -612,6 +580,7 @@ public final class PromiseTest {
     }
 
     private static void rightCircles() {
+        sentence("Promise 13: rightError");
         SheetMarker x = lesson();
         writes(x, 1, "B1", "=C1");
         writes(x, 1, "C1", "=B1*B1");
@@ -643,6 +612,7 @@ public final class PromiseTest {
     }
 
     private static void kind() {
+        sentence("Promise 14: kind");
         SheetMarker x = lesson();
         due("empty", x.kind(1, at("B1")), 0);
         writes(x, 1, "B1", "=1+A1+A1");
@@ -680,6 +650,7 @@ public final class PromiseTest {
     }
 
     private static void kindsInWorlds() {
+        sentence("Promise 14: kind, in worlds");
         SheetMarker x = new SheetMarker();
         x.wants(0, 3);
         writes(x, 0, "A1", "=1");
@@ -707,6 +678,7 @@ public final class PromiseTest {
     }
 
     private static void points() {
+        sentence("Promise 15: points");
         SheetMarker x = lesson();
         writes(x, 1, "B1", "=A1*2-1");
         writes(x, 1, "C1", "=B1*B1");
@@ -758,6 +730,7 @@ public final class PromiseTest {
     }
 
     private static void slipSigns() {
+        sentence("Promise 16: slip, signs");
         slips("=A1+B1", "=A1-B1", 3, '+');
         slips("=A1-B1", "=A1+B1", 3, '-');
         slips("=A1*B1", "=A1+B1", 3, '*');
@@ -779,6 +752,7 @@ public final class PromiseTest {
     }
 
     private static void slipNumbersAndCells() {
+        sentence("Promise 16: slip, numbers and cells");
         slips("=A1+4", "=A1+3", 4, 4);
         slips("=A1+4", "=A1+5", 4, 4);
         slips("=A1-1", "=A1+0", 4, -1);
@@ -844,6 +818,7 @@ public final class PromiseTest {
     }
 
     private static void slipAtTheEdge() {
+        sentence("Promise 16: slip, at the sheet's edges");
         misnamed("=A8", "=A7", 4);
         misnamed("=A7", "=A8", 4);
         misnamed("=A1", "=A2", 4);
@@ -866,6 +841,7 @@ public final class PromiseTest {
     }
 
     private static void fault() {
+        sentence("Promise 17: fault");
         SheetMarker x = lesson();
         due("first of all", x.fault(1, 0), at("B1"));
         due("second", x.fault(1, 1), at("C1"));
@@ -889,6 +865,7 @@ public final class PromiseTest {
     }
 
     private static void copied() {
+        sentence("Promise 18: copied");
         SheetMarker x = new SheetMarker();
         x.input(0);
         for (int s = 1; s < 6; s += 2) {
@@ -928,6 +905,7 @@ public final class PromiseTest {
     }
 
     private static void look() {
+        sentence("Promise 19: look");
         SheetMarker x = new SheetMarker();
         x.number(1, 1, -1);
         writes(x, 1, "C1", "=M(A1,2)");
@@ -954,6 +932,7 @@ public final class PromiseTest {
     }
 
     private static void lookComing() {
+        sentence("Promise 19: look, what comes to a cell");
         SheetMarker x = new SheetMarker();
         writes(x, 1, "B1", "=A1");
         writes(x, 1, "C1", "=B1+B1");
@@ -978,6 +957,7 @@ public final class PromiseTest {
     }
 
     private static void count() {
+        sentence("Promise 20: count");
         SheetMarker x = lesson();
         feedText(x, "=1");
         due("inputs", x.count(0), 1);
