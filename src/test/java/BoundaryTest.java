@@ -755,6 +755,7 @@ public final class BoundaryTest extends Answers {
             due("no bytes of it", x.look(5, c, 10), -1);
             due("no length of it", x.look(5, c, 1), 0);
             due("its value", x.value(5, c, 0), 0);
+            due("it needs nothing", x.look(5, 0, 2) + x.look(5, 63, 2), 0);
         }
         due("wanted still", x.count(1), 1);
         due("input still", x.count(0), 1);
@@ -1073,6 +1074,10 @@ public final class BoundaryTest extends Answers {
         due("a number ends it", x.value(1, 0, 0), 72);
         due("a formula ends it", write(x, 1, 63, "=9"), 0);
         due("a chain of 64 formulas", x.value(1, 0, 0), 72);
+        due("with right figures", x.right(1, 0, 0), 72);
+        due("with right figures of a wanted one", x.wants(62, 1) ? x.right(1, 62, 0) : -9, 10);
+        due("the task's figure on the way", x.number(0, 62, 500) ? x.right(1, 0, 0) : -9, 562);
+        due("no error on the way", x.rightError(1, 0, 0), 0);
     }
 
     private static void circlesAndInputs() {
